@@ -749,8 +749,9 @@ public final class OpForge {
             op.size++;
         }
 
+        // An op without any field is refused where it ends, for its bits are too few.
         private void readFields(Op op) {
-            for (int turn = 0; turn < MOST_OCTETS && (turn == 0 || tokens.kind != ';'); turn++) {
+            for (int turn = 0; turn < MOST_OCTETS && tokens.kind != ';'; turn++) {
                 if (tokens.kind == DIGITS) {
                     readFixedBits(op);
                 } else {

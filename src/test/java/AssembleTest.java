@@ -7,6 +7,7 @@ public final class AssembleTest {
     public static void main(String[] args) {
         stateAfterIt();
         ordinary();
+        textEndsAtItsEnd();
         numbers();
         registers();
         labels();
@@ -51,6 +52,21 @@ public final class AssembleTest {
         Bench.usual().dueWords("0 0", "nop;nop\n;");
         Bench.of("width 32; op a x:s 32 = x;").dueWords("-2147483648 2147483647 -1",
                 "a -2147483648; a 0x7fffffff; word 0xffffffff;");
+    }
+
+    private static void textEndsAtItsEnd() {
+        Bench bench = Bench.of(OTHER);
+        String text = "u1 0xf; word 12;";
+        String[] wrongs = {"-1", "0", "2", "3", "4", "4", "6"};
+        for (int n = 0; n < wrongs.length; n++) {
+            int cut = n;
+            bench.feed(text);
+            Bench.told(() -> bench.forge.assemble(cut));
+            Bench.due(wrongs[n], bench.wrong(), "wrong() after assemble(" + n + ") of " + text);
+        }
+        bench.feed(text);
+        Bench.due("1", Bench.told(() -> bench.forge.assemble(7)), "assemble(7) of " + text);
+        Bench.due("1", Bench.told(() -> bench.forge.count(3)), "count(3) after assemble(7) of " + text);
     }
 
     private static void numbers() {

@@ -1,3 +1,4 @@
+import java.util.Arrays;
 import java.util.concurrent.Callable;
 
 /** A forge under test that is fed texts instead of octets, and whose answers are told as texts. */
@@ -76,7 +77,7 @@ final class Bench {
     }
 
     String encode(int op, long... values) {
-        long[] all = java.util.Arrays.copyOf(values, 6);
+        long[] all = Arrays.copyOf(values, 6);
         return told(() -> forge.encode(op, all[0], all[1], all[2], all[3], all[4], all[5]));
     }
 

@@ -2,6 +2,8 @@
 public final class DescribeTest {
     public static void main(String[] args) {
         stateAfterIt();
+        nothingStaysOfTheOneBefore();
+        textEndsAtItsEnd();
         letters();
         tokens();
         widths();
@@ -39,6 +41,31 @@ public final class DescribeTest {
         Bench.due(Bench.STATE, Bench.told(() -> bench.forge.assemble(0)), "assemble(0) after describe, wrong");
     }
 
+    private static void nothingStaysOfTheOneBefore() {
+        Bench bench = Bench.of("width 16; set r 6; set q 6; op a x:u 4, y:r = 111111 x y;");
+        bench.describe("width 8; set r 1; op a x:r, y:s 6 = 0 y x; op b x:u 7 = 1 x;");
+        Bench.due("-1", bench.wrong(), "wrong() after the next description");
+        Bench.due("8", bench.count(0), "count(0) of the next description");
+        Bench.due("1", bench.count(1), "count(1) of the next description");
+        Bench.due("a r1, -32;", bench.text(0x41), "text(0x41) of the next description");
+        Bench.due("b 127;", bench.text(0xff), "text(0xff) of the next description");
+        Bench.due(String.valueOf(0x41), bench.encode(0, 1, -32), "encode of the next description");
+        Bench.due("a r1, -32;", bench.text(0xffffff41), "text(0xffffff41) of the next description");
+        bench.describe("width 8; op c x:u 8 = x;");
+        Bench.due("c 129;", bench.text(0x81), "text(0x81) of the third description");
+    }
+
+    private static void textEndsAtItsEnd() {
+        Bench bench = new Bench();
+        bench.feed("width 8; op a = 00000000;");
+        Bench.due("0", Bench.told(() -> bench.forge.describe(8)), "describe(8) of more");
+        bench.feed("width 16;");
+        Bench.due(Bench.ARGUMENT, Bench.told(() -> bench.forge.describe(7)), "describe(7) of width 16;");
+        Bench.due("6", bench.wrong(), "wrong() after describe(7) of width 16;");
+        Bench.dueWrongDescription(0, ";".repeat(4000));
+        Bench.dueDescription(0, "width 8;" + " ".repeat(3992));
+    }
+
     private static void letters() {
         Bench.dueDescription(0, "\n\nwidth\n8\n;\n");
         Bench.dueWrongDescription(8, "width 9;\t");
@@ -47,6 +74,7 @@ public final class DescribeTest {
         Bench.dueWrongDescription(9, "width 8; \u0080");
         Bench.dueWrongDescription(9, "width 8; \u00ff");
         Bench.dueWrongDescription(9, "width 8; ~");
+        Bench.dueWrongDescription(6, "width 9; ~");
         Bench.dueWrongDescription(9, "width 8; $ \n");
         Bench.dueWrongDescription(10, "width 8   ");
         Bench.dueWrongDescription(0, "");
@@ -63,7 +91,14 @@ public final class DescribeTest {
         Bench.dueDescription(1, "width 8; op abcdefghijkl = 00000000;");
         Bench.dueWrongDescription(26, "width 8; op abcdefghijklm = 00000000;");
         Bench.dueDescription(1, "width 8; op abcdefghijklm:u 8 = m;");
-        Bench.dueDescription(1, "width 8; op _A9z = 00000000;");
+        Bench.dueDescription(1, "width 8; op _Aa09zZ_ = 00000000;");
+        Bench.dueDescription(1, "width 8; op Z = 00000000;");
+        Bench.dueDescription(1, "width 8; op z = 00000000;");
+        String[] besides = {"@", "`", "{", "/", "^"};
+        for (String beside : besides) {
+            Bench.dueWrongDescription(12, "width 8; op " + beside + " = 00000000;");
+            Bench.dueWrongDescription(13, "width 8; op a" + beside + " = 00000000;");
+        }
         Bench.dueWrongDescription(12, "width 8; op 9a = 00000000;");
         Bench.dueWrongDescription(0, "width8;");
         Bench.dueWrongDescription(0, "Width 8;");
@@ -132,6 +167,11 @@ public final class DescribeTest {
         Bench.dueDescription(1, "width 8; op a x:u 4 = x[0003:0003] 0000 x[2:2]x[1:0];");
         Bench.dueWrongDescription(35, "width 8; op a x:u 4 = x[3:2] 000000;");
         Bench.dueWrongDescription(34, "width 8; op a x:u 4 = 0000 x[3:1] x[3:0];");
+        Bench.dueWrongDescription(34, "width 8; op a x:u 4 = x[3:1] 00000;");
+        Bench.dueWrongDescription(34, "width 8; op a x:u 4 = x[2:0] 00000;");
+        Bench.dueWrongDescription(29, "width 8; op a x:u 4 = x[2:0] x[2:2] 0000;");
+        Bench.dueWrongDescription(29, "width 8; op a x:u 4 = x[2:0] x[3:2] 000;");
+        Bench.dueWrongDescription(29, "width 8; op a x:u 4 = x[3:1] x[1:0] 000;");
         Bench.dueWrongDescription(24, "width 8; op a x:u 4 = x x;");
         Bench.dueWrongDescription(26, "width 8; op a x:u 4 = x x[9:0];");
         Bench.dueWrongDescription(31, "width 8; op a x:u 5, y:u 5 = x y;");

@@ -2,6 +2,7 @@ import java.lang.reflect.Constructor;
 import java.lang.reflect.Field;
 import java.lang.reflect.Method;
 import java.lang.reflect.Modifier;
+import java.util.Arrays;
 import java.util.Set;
 import java.util.TreeSet;
 
@@ -16,8 +17,9 @@ public final class FaceTest {
         Set<String> names = new TreeSet<>();
         for (Method method : OpForge.class.getDeclaredMethods()) {
             if (!Modifier.isPrivate(method.getModifiers())) {
-                String types = java.util.Arrays.toString(method.getParameterTypes());
-                seen.add(method.getName() + "(" + types.substring(1, types.length() - 1) + ") " + method.getReturnType());
+                String types = Arrays.toString(method.getParameterTypes());
+                String inside = types.substring(1, types.length() - 1);
+                seen.add(method.getName() + "(" + inside + ") " + method.getReturnType());
                 names.add(method.getName());
             }
         }

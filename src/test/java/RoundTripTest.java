@@ -1,4 +1,5 @@
 import java.util.ArrayList;
+import java.util.Collections;
 import java.util.List;
 import java.util.Random;
 
@@ -42,7 +43,7 @@ public final class RoundTripTest {
                 free -= size;
             }
         }
-        java.util.Collections.shuffle(fields, RANDOM);
+        Collections.shuffle(fields, RANDOM);
         String prefix = fixed == 0 ? "" : Integer.toBinaryString(ops + index).substring(1);
         String suffix = "0".repeat(free);
         return "op o" + index + operands + " = " + prefix + " " + String.join(" ", fields) + " " + suffix + ";\n";
