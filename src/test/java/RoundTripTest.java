@@ -61,9 +61,9 @@ public final class RoundTripTest {
 
     private static void checkWord(Bench bench, int word, int width) {
         int shown = width == 32 ? word : word & (1 << width) - 1;
-        String text = bench.text(word);
+        String text = bench.line(word);
         bench.dueWords(String.valueOf(shown), text);
-        int op = bench.forge.op(word);
+        int op = Integer.parseInt(bench.op(word));
         if (op < 0) {
             return;
         }
