@@ -4,6 +4,7 @@ public final class Term1TextsTest {
 
     public static void main(String[] args) {
         everyOctetIsTakenOrForbidden();
+        everyOctetAsTheFirstOne();
         forbiddenLettersComeBeforeAnythingElse();
         lettersBehindTheTextAreNotLookedAt();
         fullDescription();
@@ -44,6 +45,27 @@ public final class Term1TextsTest {
             Bench.dueWrongDescription(taken ? 6 : 8, "width 9;" + (char) octet);
             Bench.usual().dueWrongProgram(taken ? 0 : 3, "no;" + (char) octet);
         }
+    }
+
+    /** "WRONG at it": at 0, too, where of all letters a text can begin with blanks and ends of lines alone. */
+    private static void everyOctetAsTheFirstOne() {
+        for (int octet = 0; octet < 256; octet++) {
+            String first = String.valueOf((char) octet);
+            if (octet == 10 || octet == 32) {
+                Bench.dueDescription(0, first + "width 8;");
+                Bench.usual().dueWords("", first);
+                Bench.usual().dueWords("0", first + "nop;");
+            } else {
+                Bench.dueWrongDescription(0, first);
+                Bench.dueWrongDescription(0, first + "width 8;");
+                Bench.usual().dueWrongProgram(0, first);
+                Bench.usual().dueWrongProgram(0, first + "nop;");
+            }
+        }
+        // Of several forbidden ones the first.
+        Bench.dueWrongDescription(0, "\u0080\u0000\u00ff");
+        Bench.dueWrongDescription(8, "width 8;\u0080\u0000\u00ff");
+        Bench.usual().dueWrongProgram(0, "\u0080\u0000\u00ff");
     }
 
     /** "WRONG at it, before anything else" */

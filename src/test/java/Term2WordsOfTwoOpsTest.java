@@ -102,6 +102,9 @@ public final class Term2WordsOfTwoOpsTest {
         String text = "width 8; op a = 00000000; op b = 00000000";
         Bench.dueWrongDescription(29, text + ";");
         Bench.dueWrongDescription(29, text + "; op $");
+        for (String behind : new String[] {" ", " $", ";", " width 8;", " b = 00000000;", " 0", " 0x0", " set", " set r 9;", " op a"}) {
+            Bench.dueWrongDescription(29, text + ";" + behind);
+        }
         Bench.dueWrongDescription(29, text + "; op c = 00000000;");
         // What is wrong before that ";", or at it, comes first.
         Bench.dueWrongDescription(text.length(), text);

@@ -13,6 +13,7 @@ public final class Term3LabelsTest {
         inTheirOrder();
         labelsThatAreNotThere();
         asManyAsCanBe();
+        lastOfManyLabels();
         Bench.end();
     }
 
@@ -97,6 +98,18 @@ public final class Term3LabelsTest {
         bench.dueWrongProgram(12, "j a; word 1 1;");
         bench.dueWrongProgram(10, "j a; word 65536;");
         bench.dueWrongProgram(12, "two a, 0; n;$");
+        // Too far, as is known when it is read; or not there, when there can be no more labels.
+        bench.dueWrongProgram(16, "a: n; n; n; two a, 0;");
+        bench.dueWrongProgram(24, "a: n; n; n; two a, 0; n n;");
+        bench.dueWrongProgram(19, "a: n; n; n; two a, 4;");
+        bench.dueWrongProgram(22, "a: n; n; n; two a, 0; a: n;");
+        StringBuilder labels = new StringBuilder();
+        for (int i = 0; i < 60; i++) {
+            labels.append('l').append(i).append(':');
+        }
+        bench.dueWrongProgram(labels.length() + 2, labels + "j a;");
+        bench.dueWrongProgram(labels.length() + 6, labels + "j a; n$");
+        bench.dueWrongProgram(labels.length() + 5, labels + "j a; a: n;");
     }
 
     /** "in their order" */
@@ -138,5 +151,33 @@ public final class Term3LabelsTest {
         // All but the last one are right: 0 and -1 are what one bit can be.
         last.dueWrongProgram(28, "x:" + six + "a x,x,x,x,x,y;z:");
         last.dueWords("0 63", "x:" + six + six);
+    }
+
+    /** "Behind all the rest labels in V are looked at": so many of them that a text holds hardly more, up to the last one. */
+    private static void lastOfManyLabels() {
+        String description = "width 32; op a b:p 5,c:p 5,d:p 5,e:p 5,f:p 5,g:p 5 = 00 b c d e f g;";
+        StringBuilder text = new StringBuilder();
+        for (char label = 'a'; label < 'k'; label++) {
+            String six = "a l,l,l,l,l,l;".replace('l', label);
+            text.append(six.repeat(14)).append(label).append(':').append(six.repeat(14));
+        }
+        // These three words are 14, 15 and 16 behind the last label: the least that 5 bits can be is -16.
+        String right = text + "a j,j,j,j,j,j;a j,j,j,j,j,j;a j,j,j,j,j,";
+        Bench bench = Bench.of(description);
+        Bench.due(283, bench.assemble(right + "j;"), "1,698 labels in V");
+        Bench.due(sixOf(14), bench.word(0), "the first word of 1,698 labels in V");
+        Bench.due(sixOf(-13), bench.word(279), "the last word of the last label");
+        Bench.due(sixOf(-16), bench.word(282), "the last word of 1,698 labels in V");
+        Bench.of(description).dueWrongProgram(right.length(), right + "z;");
+        // The label i is 44 words before.
+        Bench.of(description).dueWrongProgram(right.length(), right + "i;");
+    }
+
+    private static int sixOf(int distance) {
+        int word = 0;
+        for (int k = 0; k < 6; k++) {
+            word = word << 5 | distance & 31;
+        }
+        return word;
     }
 }
