@@ -47,7 +47,8 @@ public final class LongRunTest {
         }
         for (int i = 0; i < 58; i++) {
             String code = Integer.toBinaryString(64 + i).substring(1);
-            text.append("op o").append(i).append(" d:r").append((char) ('a' + i % 12)).append(",i:s 7=").append(code).append("d i;");
+            char set = (char) ('a' + i % 12);
+            text.append("op o").append(i).append(" d:r").append(set).append(",i:s 7=").append(code).append("d i;");
         }
         return text + "op j t:p 10=111010t;op n=1110110000000000;";
     }
@@ -89,7 +90,8 @@ public final class LongRunTest {
         due(59, bench.op(0xec00), "op(0xec00)");
         due(-1, bench.op(0xec01), "op(0xec01)");
         due(0x1ec0, bench.encode(7, 5, -64), "encode");
-        due(Bench.ARGUMENT, bench.describe("width 16; op a = 0000000000000001; op b x:u 1 = 000000000000000 x;"), "a wrong description");
+        String wrong = "width 16; op a = 0000000000000001; op b x:u 1 = 000000000000000 x;";
+        due(Bench.ARGUMENT, bench.describe(wrong), "a wrong description");
         due(38, bench.wrong(), "wrong() after it");
         due("0 0 0 0 0 0", bench.counts(), "counts after it");
         due(Bench.STATE, bench.op(0xec00), "op without a description");
@@ -180,7 +182,8 @@ public final class LongRunTest {
             due("b 77;", bench.line(0x4d), "a text of it");
             due(0x4d, bench.encode(1, 0x4d), "a word of it");
             due("r x31, r62, -1;", bench.line(0xfffffffe), "another text of it");
-            due("-2 " + 0b1_00000000000000000001_0000_11111_11, bench.words("r x31, r62, -1; r x31, r3, r; r:"), "a program of it");
+            int second = 0b1_00000000000000000001_0000_11111_11;
+            due("-2 " + second, bench.words("r x31, r62, -1; r x31, r3, r; r:"), "a program of it");
             due(Bench.ARGUMENT, bench.describe("width 8; op a x:r = 00 x;"), "a set of the one before");
             due(16, bench.wrong(), "wrong() after it");
         }

@@ -84,7 +84,8 @@ final class MadeUp {
             free -= bits;
         }
         Collections.shuffle(fields, random);
-        return "op " + name + " " + String.join(oneOf(2) ? "," : ", ", operands) + " = " + code + " " + String.join(" ", fields) + ";";
+        String head = "op " + name + " " + String.join(oneOf(2) ? "," : ", ", operands);
+        return head + " = " + code + " " + String.join(" ", fields) + ";";
     }
 
     private void addFields(List<String> fields, String operand, int size) {
@@ -198,7 +199,8 @@ final class MadeUp {
             default -> text.substring(parts.start(j), parts.end(j));
         };
         boolean instead = oneOf(2);
-        return text.substring(0, parts.start(i)) + other + (instead ? "" : " ") + text.substring(instead ? parts.end(i) : parts.start(i));
+        String behind = instead ? text.substring(parts.end(i)) : " " + text.substring(parts.start(i));
+        return text.substring(0, parts.start(i)) + other + behind;
     }
 
     /** Blanks and ends of lines come between tokens, until there are up to 4,000 letters, or just so many. */
