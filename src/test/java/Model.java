@@ -220,6 +220,20 @@ final class Model {
         return String.valueOf(fed.length());
     }
 
+    private void feed(String text) {
+        fed.append(text).append("\0".repeat((20 - text.length() % 20) % 20));
+    }
+
+    String describe(String text) {
+        feed(text);
+        return describe(text.length());
+    }
+
+    String assemble(String text) {
+        feed(text);
+        return assemble(text.length());
+    }
+
     String describe(int n) {
         if (n < 0 || n > fed.length()) {
             return Bench.BOUNDS;

@@ -50,6 +50,9 @@ public final class Term2DescriptionTest {
         Bench.dueDescription(0, "width 8;");
         Bench.dueDescription(2, "width 8; op a = 00000000; set r 3; op b = 00000001; set q 3;");
         Bench.dueWrongDescription(0, "set r 3; width 8;");
+        for (String other : new String[] {"0x1", "8", "Width", "set", "op", "word", "u", "s", "p", ";", "="}) {
+            Bench.dueWrongDescription(0, other + " 8;");
+        }
         Bench.dueWrongDescription(9, "width 8; width 8;");
         Bench.dueWrongDescription(8, "width 8;;");
         Bench.dueWrongDescription(8, "width 8 8;");

@@ -113,7 +113,11 @@ public final class Term3ValuesTest {
         for (String op : new String[] {"s1", "u1", "p1"}) {
             bench.dueWrongProgram(3, op + " ;");
             bench.dueWrongProgram(3, op + " ,1;");
-            bench.dueWrongProgram(3, op + " word;");
+            for (String key : new String[] {"width", "set", "op", "word", "u", "s", "p"}) {
+                bench.dueWrongProgram(3, op + " " + key + ";");
+                bench.dueWrongProgram(4, op + " -" + key + ";");
+                bench.dueWrongProgram(5, "word " + key + ";");
+            }
             bench.dueWrongProgram(4, op + " -;");
             bench.dueWrongProgram(4, op + " --1;");
             bench.dueWrongProgram(4, op + " -a; a:");
